@@ -195,6 +195,13 @@ public final class PromisesTest {
         due.is("row(0)", x.row(0), 512);
         due.is("rank", x.code(2), 1);
         due.is("no third row any more", x.syndrome(1023), 1);
+        CosetGauges y = of("10000/01000/00100/00010/00001");
+        due.is("radius 5", y.code(5), 5);
+        write(y, "111");
+        due.is("short ones", y.sums(), 3);
+        due.is("radius 1", y.code(5), 1);
+        due.is("distance 2", y.code(3), 2);
+        due.is("leaders of weight 2 are gone", y.leaders(2), 0);
     }
 
     private static void sumsRefused() {
@@ -468,6 +475,8 @@ public final class PromisesTest {
         due.is("all but one", z.share(4, 1, 0), 0);
         due.is("all", z.share(4, 3, 0), 1);
         due.is("only bits", z.share(4, 3, 1), 3);
+        due.is("word 1 is not seen", of("011").share(2, 4, 0), 0);
+        due.is("word 4 is not seen", of("110").share(1, 2, 0), 0);
         // Four places are as many as are needed, but 7 (places 0 to 2) has syndrome 0 and none of these.
         due.is("the right places, not as many", of(HAMMING).share(8, 112, 0), 0);
         int[][] outside = {{-1, 0, 0}, {32, 0, 0}, {0, -1, 0}, {0, 32, 0}, {1, 1, 0}, {3, 6, 1}, {31, 16, 1},
@@ -505,6 +514,10 @@ public final class PromisesTest {
         CosetGauges x = of("110/011");
         due.is("from y: first", x.shared(0, 1, 5, 4, false), 5);
         due.is("from y: second", x.shared(0, 1, 5, 4, true), 4);
+        due.is("from y, flipped there: first", x.shared(0, 1, 4, 5, false), 4);
+        due.is("from y, flipped there: second", x.shared(0, 1, 4, 5, true), 5);
+        due.is("word 0: first", x.shared(1, 0, 0, 1, false), 0);
+        due.is("word 0: second", x.shared(1, 0, 1, 0, true), 0);
         due.is("from x: first", x.shared(4, 0, 2, 3, false), 2);
         due.is("from x: second", x.shared(4, 0, 2, 3, true), 3);
         // Flips of 5 xor 6 are 4, not 3: y is known to have 0 at place 0, so x is taken to be 2.
