@@ -4,9 +4,15 @@ final class Due {
     private final String test;
     private int calls = 0;
     private int wrong = 0;
+    private String sentence = "";
 
     Due(String test) {
         this.test = test;
+    }
+
+    /** What is looked at from here on is told under this sentence of the document. */
+    void sentence(String words) {
+        sentence = "[" + words + "] ";
     }
 
     void is(String call, long got, long want) {
@@ -14,7 +20,7 @@ final class Due {
         if (got != want) {
             wrong++;
             if (wrong <= MOST_SHOWN) {
-                System.out.println(call + " answered " + got + ", due is " + want);
+                System.out.println(sentence + call + " answered " + got + ", due is " + want);
             }
         }
     }

@@ -47,23 +47,8 @@ public final class PromisesTest {
         due.end();
     }
 
-    private static void write(CosetGauges x, String text) {
-        for (int i = 0; i < text.length(); i++) {
-            x.letter(text.charAt(i));
-        }
-    }
-
-    private static CosetGauges of(String text) {
-        CosetGauges x = new CosetGauges();
-        write(x, text);
-        due.is("sums() of " + text, x.sums(), (text + "/").indexOf('/'));
-        return x;
-    }
-
     private static int faultOf(String text) {
-        CosetGauges x = new CosetGauges();
-        write(x, text);
-        return x.fault();
+        return Given.page(text).fault();
     }
 
     private static void constants() {
@@ -84,7 +69,7 @@ public final class PromisesTest {
         due.is("new: fault()", x.fault(), 0);
         due.is("new: blank()", x.blank(), 0);
         due.is("new: sums()", x.sums(), STATE);
-        CosetGauges other = of("111");
+        CosetGauges other = Given.sums("111");
         due.is("another object has sums", other.code(0), 3);
         due.is("this one has none", x.code(0), STATE);
     }
@@ -112,13 +97,13 @@ public final class PromisesTest {
 
     // promise 3
     private static void blank() {
-        CosetGauges x = of("110/011");
-        write(x, "abc");
+        CosetGauges x = Given.sums("110/011");
+        Given.write(x, "abc");
         due.is("blank() of abc", x.blank(), 3);
         due.is("blank() again", x.blank(), 0);
         due.is("page is empty", x.count(0), 0);
         due.is("sums stay", x.code(1), 2);
-        write(x, "111");
+        Given.write(x, "111");
         due.is("no letter was kept", x.sums(), 3);
         due.is("row(0) of 111", x.row(0), 7);
     }
@@ -144,7 +129,7 @@ public final class PromisesTest {
         due.is("fault of eleven signs", faultOf("01010101010"), 10);
         due.is("only the first one counts", faultOf("x1y"), 0);
         CosetGauges x = new CosetGauges();
-        write(x, "101/11/");
+        Given.write(x, "101/11/");
         due.is("fault of 101/11/", x.fault(), 6);
         due.is("fault() again", x.fault(), 6);
         due.is("the page stays", x.count(0), 7);
@@ -169,7 +154,7 @@ public final class PromisesTest {
 
     // promise 5
     private static void sums() {
-        CosetGauges x = of(HAMMING);
+        CosetGauges x = Given.sums(HAMMING);
         due.is("the page is empty", x.count(0), 0);
         due.is("fault() is 0", x.fault(), 0);
         due.is("sums() of an empty page", x.sums(), STATE);
@@ -178,7 +163,7 @@ public final class PromisesTest {
         x.run(5, 3, 4);
         int seed = x.seed();
         int bits = x.count(5);
-        write(x, "110/011");
+        Given.write(x, "110/011");
         due.is("others come", x.sums(), 3);
         due.is("length", x.code(0), 3);
         due.is("rows", x.code(1), 2);
@@ -190,14 +175,14 @@ public final class PromisesTest {
         due.is("counted sends stay", x.count(1) + x.count(2) + x.count(3) + x.count(4), 4);
         due.is("seed stays", x.seed(), seed);
         due.is("read twice", x.count(7), 2);
-        write(x, "0000000001");
+        Given.write(x, "0000000001");
         due.is("longer ones again", x.sums(), 10);
         due.is("row(0)", x.row(0), 512);
         due.is("rank", x.code(2), 1);
         due.is("no third row any more", x.syndrome(1023), 1);
-        CosetGauges y = of("10000/01000/00100/00010/00001");
+        CosetGauges y = Given.sums("10000/01000/00100/00010/00001");
         due.is("radius 5", y.code(5), 5);
-        write(y, "111");
+        Given.write(y, "111");
         due.is("short ones", y.sums(), 3);
         due.is("radius 1", y.code(5), 1);
         due.is("distance 2", y.code(3), 2);
@@ -205,27 +190,27 @@ public final class PromisesTest {
     }
 
     private static void sumsRefused() {
-        CosetGauges x = of("110/011");
+        CosetGauges x = Given.sums("110/011");
         String[] none = {"1", "11", "111/", "111/11", "111/1111", "11/11", "1 1", "111/111/111/111/111/",
             "111/111/111/111/111/111", "11111111111", "111a", "/111"};
         for (String text : none) {
-            write(x, text);
+            Given.write(x, text);
             due.is("sums() of " + text, x.sums(), STATE);
             due.is("the page stays", x.count(0), text.length());
             due.is("the sums stay", x.code(1) * 10 + x.code(0), 23);
             due.is("not counted", x.count(7), 1);
             x.blank();
         }
-        write(x, "111/1");
+        Given.write(x, "111/1");
         due.is("sums() of 111/1", x.sums(), STATE);
-        write(x, "01");
+        Given.write(x, "01");
         due.is("sums() of 111/101", x.sums(), 3);
         due.is("row(1)", x.row(1), 5);
     }
 
     // promise 6
     private static void codeIs(String text, int rows, int rank, int distance, int sure, int radius) {
-        CosetGauges x = of(text);
+        CosetGauges x = Given.sums(text);
         due.is(text + ": length", x.code(0), (text + "/").indexOf('/'));
         due.is(text + ": rows", x.code(1), rows);
         due.is(text + ": rank", x.code(2), rank);
@@ -246,7 +231,7 @@ public final class PromisesTest {
         codeIs("110000/101000/100100/100010/100001", 5, 5, 6, 2, 3);
         codeIs("10000/01000/00100/00010/00001", 5, 5, NONE, 5, 5);
         codeIs("1000000000/0100000000/0010000000/0001000000/0000100000", 5, 5, 1, 0, 5);
-        CosetGauges x = of("110/011");
+        CosetGauges x = Given.sums("110/011");
         int[] outside = {-1, 7, LEAST, GREATEST};
         for (int what : outside) {
             due.is("code(" + what + ")", x.code(what), OUTSIDE);
@@ -260,7 +245,7 @@ public final class PromisesTest {
     private static void sureOfEvenDistance() {
         // Only 0 and 15 have syndrome 0 here: 3 and 12 are of one coset, and of one weight.
         codeIs("1100/0110/0011", 3, 3, 4, 1, 2);
-        CosetGauges x = of("1100/0110/0011");
+        CosetGauges x = Given.sums("1100/0110/0011");
         due.is("3 and 12 tie", x.leader(x.syndrome(12)), 3);
         due.is("doubted", x.send(0, 3), 1);
         due.is("wrong and doubted", x.send(0, 12), 2);
@@ -268,7 +253,7 @@ public final class PromisesTest {
 
     // promise 7
     private static void row() {
-        CosetGauges x = of(HAMMING);
+        CosetGauges x = Given.sums(HAMMING);
         due.is("row(0)", x.row(0), 85);
         due.is("row(1)", x.row(1), 102);
         due.is("row(2)", x.row(2), 120);
@@ -276,7 +261,7 @@ public final class PromisesTest {
         for (int row : outside) {
             due.is("row(" + row + ")", x.row(row), OUTSIDE);
         }
-        CosetGauges y = of("100/001/000/111/110");
+        CosetGauges y = Given.sums("100/001/000/111/110");
         int[] rows = {1, 4, 0, 7, 3};
         for (int i = 0; i < rows.length; i++) {
             due.is("row(" + i + ")", y.row(i), rows[i]);
@@ -286,7 +271,7 @@ public final class PromisesTest {
 
     // promise 8
     private static void syndrome() {
-        CosetGauges x = of(HAMMING);
+        CosetGauges x = Given.sums(HAMMING);
         for (int place = 0; place < 7; place++) {
             due.is("syndrome of place " + place, x.syndrome(1 << place), place + 1);
         }
@@ -298,7 +283,7 @@ public final class PromisesTest {
         for (int word : outside) {
             due.is("syndrome(" + word + ")", x.syndrome(word), OUTSIDE);
         }
-        CosetGauges y = of("1110/1110");
+        CosetGauges y = Given.sums("1110/1110");
         due.is("rest by 2", y.syndrome(7), 3);
         due.is("even", y.syndrome(3), 0);
         due.is("the last place", y.syndrome(8), 0);
@@ -306,7 +291,7 @@ public final class PromisesTest {
 
     // promise 9
     private static void leader() {
-        CosetGauges x = of(HAMMING);
+        CosetGauges x = Given.sums(HAMMING);
         due.is("leader(0)", x.leader(0), 0);
         for (int syndrome = 1; syndrome < 8; syndrome++) {
             due.is("leader(" + syndrome + ")", x.leader(syndrome), 1 << (syndrome - 1));
@@ -315,19 +300,19 @@ public final class PromisesTest {
         for (int syndrome : outside) {
             due.is("leader(" + syndrome + ")", x.leader(syndrome), OUTSIDE);
         }
-        CosetGauges y = of("1100/1100/0011");
+        CosetGauges y = Given.sums("1100/1100/0011");
         int[] leaders = {0, NONE, NONE, 1, 4, NONE, NONE, 5};
         for (int syndrome = 0; syndrome < 8; syndrome++) {
             due.is("1100/1100/0011: leader(" + syndrome + ")", y.leader(syndrome), leaders[syndrome]);
         }
         // 8 is place 3 alone, 3 is places 0 and 1: the greater word is the lighter one.
-        CosetGauges z = of("1001/0101");
+        CosetGauges z = Given.sums("1001/0101");
         due.is("the lighter word, not the lesser", z.leader(3), 8);
     }
 
     // promise 10
     private static void coset() {
-        CosetGauges x = of("1100/0011");
+        CosetGauges x = Given.sums("1100/0011");
         int[][] cosets = {{0, 3, 12, 15}, {1, 2, 13, 14}, {4, 7, 8, 11}, {5, 6, 9, 10}};
         for (int syndrome = 0; syndrome < 4; syndrome++) {
             for (int place = 0; place < 4; place++) {
@@ -343,17 +328,17 @@ public final class PromisesTest {
             due.is("coset(" + syndrome + ", 0)", x.coset(syndrome, 0), OUTSIDE);
             due.is("coset(" + syndrome + ", -1)", x.coset(syndrome, -1), OUTSIDE);
         }
-        CosetGauges y = of("110/110");
+        CosetGauges y = Given.sums("110/110");
         due.is("a coset of no word", y.coset(1, 0), NONE);
-        due.is("the least is not the lightest", of("1001/0101").coset(3, 0), 3);
-        CosetGauges z = of("0000000000");
+        due.is("the least is not the lightest", Given.sums("1001/0101").coset(3, 0), 3);
+        CosetGauges z = Given.sums("0000000000");
         due.is("the last of all words", z.coset(0, 1023), 1023);
         due.is("no more words", z.coset(0, 1024), NONE);
     }
 
     // promise 11
     private static void leaders() {
-        CosetGauges x = of("110000/101000/100100/100010/100001");
+        CosetGauges x = Given.sums("110000/101000/100100/100010/100001");
         int[] count = {1, 6, 15, 10, 0, 0, 0};
         for (int weight = 0; weight <= 6; weight++) {
             due.is("leaders(" + weight + ")", x.leaders(weight), count[weight]);
@@ -362,34 +347,34 @@ public final class PromisesTest {
         for (int weight : outside) {
             due.is("leaders(" + weight + ")", x.leaders(weight), OUTSIDE);
         }
-        CosetGauges y = of("0000000000");
+        CosetGauges y = Given.sums("0000000000");
         due.is("leaders(0)", y.leaders(0), 1);
         due.is("leaders(10)", y.leaders(10), 0);
         due.is("leaders(11)", y.leaders(11), OUTSIDE);
-        CosetGauges z = of("10000/01000/00100/00010/00001");
+        CosetGauges z = Given.sums("10000/01000/00100/00010/00001");
         due.is("leaders(5) of five", z.leaders(5), 1);
         due.is("leaders(2) of five", z.leaders(2), 10);
     }
 
     // promise 12
     private static void better() {
-        CosetGauges x = of("100/010/001");
+        CosetGauges x = Given.sums("100/010/001");
         due.is("none: 4 as before", x.better(2, 4), 0);
         due.is("none: 4 as before, 7", x.better(2, 7), 0);
         due.is("none to 1", x.better(2, 0), -3);
         due.is("none to 1 by a like row", x.better(0, 2), -3);
         due.is("none to 1, not 2", x.better(2, 2), -3);
-        CosetGauges y = of("110/010/000");
+        CosetGauges y = Given.sums("110/010/000");
         due.is("1 to none", y.better(2, 4), 3);
         due.is("1 to none by 7", y.better(2, 7), 3);
         due.is("1 to 1", y.better(2, 3), 0);
         due.is("1 to 2", y.better(1, 6), 2);
         due.is("the sums stay", y.row(2) * 100 + y.code(3), 1);
-        CosetGauges z = of(HAMMING);
+        CosetGauges z = Given.sums(HAMMING);
         due.is("3 to 2", z.better(0, 1), -1);
         due.is("3 to 1", z.better(2, 0), -2);
         due.is("3 to 3", z.better(2, 120), 0);
-        CosetGauges even = of("1100/0110/0011");
+        CosetGauges even = Given.sums("1100/0110/0011");
         due.is("4 to 3", even.better(0, 1), -1);
         due.is("4 to 1", even.better(0, 14), -3);
         due.is("4 to 4 by another row", even.better(0, 15), 0);
@@ -405,7 +390,7 @@ public final class PromisesTest {
 
     // promise 13
     private static void send() {
-        CosetGauges x = of("11000/10100/10010/10001");
+        CosetGauges x = Given.sums("11000/10100/10010/10001");
         due.is("right, no flips", x.send(31, 31), 0);
         due.is("right, one flip", x.send(31, 30), 0);
         due.is("right, two flips", x.send(0, 24), 0);
@@ -415,7 +400,7 @@ public final class PromisesTest {
         due.is("wrong ones", x.count(4), 2);
         due.is("bits", x.count(5), 5 * 9);
         due.is("bits by both", x.count(6), 5 * 10);
-        CosetGauges y = of("11111");
+        CosetGauges y = Given.sums("11111");
         due.is("right and trusted", y.send(3, 3), 0);
         due.is("right and doubted", y.send(3, 2), 1);
         due.is("wrong and doubted", y.send(3, 1), 2);
@@ -433,14 +418,14 @@ public final class PromisesTest {
 
     // promise 14
     private static void plain() {
-        CosetGauges x = of(HAMMING);
+        CosetGauges x = Given.sums(HAMMING);
         due.is("verdict 3", x.plain(37, 38, 0), 3);
         due.is("flips", x.plain(37, 38, 1), 4);
         due.is("taken", x.plain(37, 38, 2), 33);
         due.is("verdict 0", x.plain(37, 101, 0), 0);
         due.is("flips of one place", x.plain(37, 101, 1), 64);
         due.is("taken right", x.plain(37, 101, 2), 101);
-        CosetGauges y = of("11111");
+        CosetGauges y = Given.sums("11111");
         due.is("verdict 1", y.plain(3, 2, 0), 1);
         due.is("verdict 2", y.plain(3, 1, 0), 2);
         due.is("taken for 1", y.plain(3, 1, 2), 2);
@@ -460,7 +445,7 @@ public final class PromisesTest {
 
     // promise 15
     private static void share() {
-        CosetGauges x = of("11111");
+        CosetGauges x = Given.sums("11111");
         due.is("enough with four", x.share(3, 12, 0), 1);
         due.is("bits of four", x.share(3, 12, 1), 6);
         due.is("not with three", x.share(3, 4, 0), 0);
@@ -468,17 +453,17 @@ public final class PromisesTest {
         due.is("any four", x.share(0, 30, 0), 1);
         due.is("one alone", x.share(27, 0, 0), 1);
         due.is("all", x.share(16, 15, 1), 7);
-        CosetGauges y = of("100/010/001");
+        CosetGauges y = Given.sums("100/010/001");
         due.is("none is enough", y.share(0, 0, 0), 1);
         due.is("bits of none", y.share(0, 0, 1), 6);
-        CosetGauges z = of("000");
+        CosetGauges z = Given.sums("000");
         due.is("all but one", z.share(4, 1, 0), 0);
         due.is("all", z.share(4, 3, 0), 1);
         due.is("only bits", z.share(4, 3, 1), 3);
-        due.is("word 1 is not seen", of("011").share(2, 4, 0), 0);
-        due.is("word 4 is not seen", of("110").share(1, 2, 0), 0);
+        due.is("word 1 is not seen", Given.sums("011").share(2, 4, 0), 0);
+        due.is("word 4 is not seen", Given.sums("110").share(1, 2, 0), 0);
         // Four places are as many as are needed, but 7 (places 0 to 2) has syndrome 0 and none of these.
-        due.is("the right places, not as many", of(HAMMING).share(8, 112, 0), 0);
+        due.is("the right places, not as many", Given.sums(HAMMING).share(8, 112, 0), 0);
         int[][] outside = {{-1, 0, 0}, {32, 0, 0}, {0, -1, 0}, {0, 32, 0}, {1, 1, 0}, {3, 6, 1}, {31, 16, 1},
             {0, 0, -1}, {0, 0, 2}, {LEAST, 0, 0}, {0, GREATEST, 0}, {0, 0, LEAST}, {0, 0, GREATEST}};
         for (int[] call : outside) {
@@ -489,7 +474,7 @@ public final class PromisesTest {
 
     // promise 16
     private static void shared() {
-        CosetGauges x = of("11111");
+        CosetGauges x = Given.sums("11111");
         due.is("first", x.shared(3, 12, 21, 20, false), 21);
         due.is("second", x.shared(3, 12, 21, 20, true), 20);
         due.is("first, wrong", x.shared(3, 12, 21, 17, false), 1);
@@ -511,7 +496,7 @@ public final class PromisesTest {
 
     private static void sharedOfBoth() {
         // Only 0 and 7 have syndrome 0 here: one known place is enough.
-        CosetGauges x = of("110/011");
+        CosetGauges x = Given.sums("110/011");
         due.is("from y: first", x.shared(0, 1, 5, 4, false), 5);
         due.is("from y: second", x.shared(0, 1, 5, 4, true), 4);
         due.is("from y, flipped there: first", x.shared(0, 1, 4, 5, false), 4);
@@ -533,7 +518,7 @@ public final class PromisesTest {
 
     // promise 17
     private static void run() {
-        CosetGauges x = of("11111");
+        CosetGauges x = Given.sums("11111");
         due.is("run(7, 20, 2)", x.run(7, 20, 2), 4);
         due.is("seed()", x.seed(), 1977730447);
         due.is("sent", x.count(1) + x.count(2) + x.count(3) + x.count(4), 20);
@@ -564,12 +549,12 @@ public final class PromisesTest {
         // 0, 21468, 9988, 22117: x is 0, and the draws of 16 for the three places are 12, 4 and 5.
         int[] wrong = new int[17];
         for (int k = 0; k <= 16; k++) {
-            wrong[k] = of("000").run(0, 1, k);
+            wrong[k] = Given.sums("000").run(0, 1, k);
         }
         for (int k = 0; k <= 16; k++) {
             due.is("000: run(0, 1, " + k + ")", wrong[k], k > 4 ? 1 : 0);
         }
-        CosetGauges x = of("010");
+        CosetGauges x = Given.sums("010");
         due.is("010: run(0, 1, 5)", x.run(0, 1, 5), 0);
         due.is("010: place 1 is unlike", x.count(2), 1);
         due.is("010: run(0, 1, 6)", x.run(0, 1, 6), 0);
@@ -579,7 +564,7 @@ public final class PromisesTest {
 
     // promise 18
     private static void seed() {
-        CosetGauges x = of("111");
+        CosetGauges x = Given.sums("111");
         due.is("no run", x.seed(), -1);
         x.send(0, 1);
         due.is("no run, but a send", x.seed(), -1);
@@ -600,8 +585,8 @@ public final class PromisesTest {
 
     // promise 19
     private static void count() {
-        CosetGauges x = of("11111");
-        write(x, "ab");
+        CosetGauges x = Given.sums("11111");
+        Given.write(x, "ab");
         due.is("letters", x.count(0), 2);
         x.send(3, 3);
         x.send(3, 2);
@@ -624,7 +609,7 @@ public final class PromisesTest {
             due.is("count(" + what + ") without sums", new CosetGauges().count(what), OUTSIDE);
         }
         x.blank();
-        write(x, "1100/1100");
+        Given.write(x, "1100/1100");
         x.sums();
         due.is("other sums: letters", x.count(0), 0);
         due.is("other sums: bits stay", x.count(5), 60);
@@ -635,7 +620,7 @@ public final class PromisesTest {
     }
 
     private static void countedBySharesAndRefusals() {
-        CosetGauges x = of("11111");
+        CosetGauges x = Given.sums("11111");
         x.share(3, 12, 1);
         x.shared(3, 12, 1, 2, true);
         x.plain(1, 2, 0);
@@ -662,10 +647,10 @@ public final class PromisesTest {
     private static void digest() {
         CosetGauges x = new CosetGauges();
         due.is("digest of a new object", x.digest(), over(1667, -1, 0, 0, 0, 0, 0, 0, 0, 0));
-        write(x, "a/");
+        Given.write(x, "a/");
         due.is("digest of a page", x.digest(), over(1667, -1, 97, 47, 2, 0, 0, 0, 0, 0, 0, 0));
         x.blank();
-        write(x, "110/110");
+        Given.write(x, "110/110");
         x.sums();
         long sums = over(1667, 3, 2, 1, 1, 0, 1, 0, 3, 3, 0, NONE, NONE, 1, 1, 1, 0, 0);
         due.is("digest of sums", x.digest(), over(sums, -1, 0, 0, 0, 0, 0, 0, 0, 1));
@@ -704,8 +689,8 @@ public final class PromisesTest {
     }
 
     private static void refusedChangesNothing() {
-        CosetGauges x = of("1100/0110");
-        write(x, "11/");
+        CosetGauges x = Given.sums("1100/0110");
+        Given.write(x, "11/");
         x.send(1, 2);
         x.run(9, 4, 5);
         long before = x.digest();
@@ -745,7 +730,7 @@ public final class PromisesTest {
                 for (int row = 0; row < rows; row++) {
                     text.append(row == 0 ? "" : "/").append("1".repeat(length));
                 }
-                CosetGauges x = of(text.toString());
+                CosetGauges x = Given.sums(text.toString());
                 due.is("rows of " + text, x.code(1), rows);
                 due.is("the last row of " + text, x.row(rows - 1), (1 << length) - 1);
                 due.is("the last syndrome of " + text, x.leader((1 << rows) - 1), 1);
