@@ -11,7 +11,10 @@ import java.util.TreeSet;
 import java.util.regex.Matcher;
 import java.util.regex.Pattern;
 
-/** The face of the document and, as far as it is easily seen, what LANGUAGE.md rules out. */
+/**
+ * The face of the document, what README.md tells of it and, as far as it is easily seen, what
+ * LANGUAGE.md rules out.
+ */
 public final class FaceTest {
     private static final String SOURCE = "src/main/java/CosetGauges.java";
     private static final Set<String> METHODS = Set.of("int letter(int)", "int blank()", "int fault()",
@@ -33,6 +36,9 @@ public final class FaceTest {
         face();
         classesInside();
         words();
+        String readme = Files.readString(Path.of("README.md"), StandardCharsets.UTF_8);
+        toldByReadme(readme);
+        exampleOfReadme(readme);
         due.end();
     }
 
@@ -108,5 +114,37 @@ public final class FaceTest {
         due.holds("without ::", !code.contains("::"));
         due.holds("without /=", !code.contains("/="));
         due.holds("signs 1 to 127 alone", source.chars().allMatch(sign -> sign > 0 && sign < 128));
+    }
+
+    private static void toldByReadme(String readme) {
+        Set<String> told = new TreeSet<>();
+        Matcher row = Pattern.compile("\\| `(int|long) (\\w+\\([^)]*\\))` \\|").matcher(readme);
+        while (row.find()) {
+            told.add(row.group(1) + " " + row.group(2).replaceAll(" \\w+(?=[,)])", "").replace(", ", ","));
+        }
+        due.holds("README.md tells " + told, told.equals(METHODS));
+        due.holds("README.md tells the constructor", readme.contains("| `CosetGauges()` |"));
+        for (String constant : CONSTANTS) {
+            due.holds("README.md tells " + constant, readme.contains("| `" + constant + "` | -100"));
+        }
+    }
+
+    private static void exampleOfReadme(String readme) {
+        CosetGauges gauges = new CosetGauges();
+        Given.write(gauges, "1010101/0110011/0001111");
+        example(readme, "gauges.sums();", gauges.sums());
+        example(readme, "gauges.code(3);", gauges.code(3));
+        example(readme, "gauges.leader(5);", gauges.leader(5));
+        example(readme, "gauges.send(37, 36);", gauges.send(37, 36));
+        example(readme, "gauges.plain(37, 38, 2);", gauges.plain(37, 38, 2));
+        example(readme, "gauges.share(0, 15, 0);", gauges.share(0, 15, 0));
+        example(readme, "gauges.shared(0, 15, 37, 36, false);", gauges.shared(0, 15, 37, 36, false));
+        example(readme, "gauges.run(7, 20, 2);", gauges.run(7, 20, 2));
+        example(readme, "gauges.count(1);", gauges.count(1));
+    }
+
+    private static void example(String readme, String call, int answer) {
+        Pattern line = Pattern.compile(Pattern.quote(call) + " *// " + answer + "\\b");
+        due.holds("README.md: " + call + " answers " + answer, line.matcher(readme).find());
     }
 }
